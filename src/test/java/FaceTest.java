@@ -1,0 +1,88 @@
+import java.lang.reflect.Constructor;
+import java.lang.reflect.Field;
+import java.lang.reflect.Method;
+import java.lang.reflect.Modifier;
+import java.nio.file.Files;
+import java.nio.file.Path;
+import java.util.ArrayList;
+import java.util.List;
+import java.util.TreeSet;
+
+/** The public face is the document's and no more, and the source keeps to the words that LANGUAGE.md leaves. */
+public final class FaceTest {
+    static final String[] FACE = {
+        "build 4", "clear 1", "of 2", "change 3", "price 2", "window 4", "windowOf 2", "turn 3", "contract 3",
+        "purse 1", "sees 2", "view 1", "share 2", "lots 1", "watched 1", "rent 1", "gain 1", "broken 0",
+        "months 1", "ahead 2", "breach 1", "blame 1", "paint 1", "height 1", "storey 2", "allowed 1", "opens 1",
+        "level 1", "cheapest 1", "site 3", "worst 1", "trade 2", "swap 2", "spill 1", "seed 1", "feed 2", "wipe 0",
+        "text 0", "hold 2", "as 2", "sheet 3", "write 3", "copy 5", "load 2", "judge 2", "image 0", "undo 0",
+        "tear 0", "count 1", "status 1",
+    };
+
+    private static final Check CHECK = new Check();
+
+    public static void main(String[] args) throws Exception {
+        Class<?> face = WindowViews.class;
+        CHECK.holds("the class is public and final",
+                Modifier.isPublic(face.getModifiers()) && Modifier.isFinal(face.getModifiers()));
+        members(face);
+        names(face);
+        source(Files.readString(Path.of("src/main/java/WindowViews.java")));
+        CHECK.end();
+    }
+
+    private static void members(Class<?> face) {
+        TreeSet<String> want = new TreeSet<>(List.of(FACE));
+        TreeSet<String> got = new TreeSet<>();
+        for (Method m : face.getDeclaredMethods()) {
+            if (Modifier.isPrivate(m.getModifiers())) {
+                continue;
+            }
+            got.add(m.getName() + " " + m.getParameterCount());
+            CHECK.holds(m + " is public, of ints", Modifier.isPublic(m.getModifiers()) && m.getReturnType() == int.class);
+            for (Class<?> p : m.getParameterTypes()) {
+                CHECK.holds(m + " takes ints", p == int.class);
+            }
+        }
+        CHECK.holds("the methods are the document's: " + got, got.equals(want));
+        Constructor<?>[] made = face.getDeclaredConstructors();
+        CHECK.holds("one constructor, public, without arguments",
+                made.length == 1 && made[0].getParameterCount() == 0 && Modifier.isPublic(made[0].getModifiers()));
+        for (Field f : face.getDeclaredFields()) {
+            CHECK.holds(f + " is private", Modifier.isPrivate(f.getModifiers()));
+        }
+    }
+
+    private static void names(Class<?> face) {
+        TreeSet<String> open = new TreeSet<>();
+        for (String row : FACE) {
+            open.add(row.substring(0, row.indexOf(' ')));
+        }
+        List<Class<?>> all = new ArrayList<>(List.of(face.getDeclaredClasses()));
+        CHECK.holds("at most twelve classes", all.size() < 12);
+        for (Class<?> inside : all) {
+            CHECK.holds(inside + " is static and not public",
+                    Modifier.isStatic(inside.getModifiers()) && !Modifier.isPublic(inside.getModifiers()));
+            for (Method m : inside.getDeclaredMethods()) {
+                CHECK.holds(m + " bears a name of its own", !open.contains(m.getName()));
+            }
+        }
+        for (Method m : face.getDeclaredMethods()) {
+            CHECK.holds(m + " takes at most seven", m.getParameterCount() <= 7);
+            CHECK.holds(m + " bears a name of its own",
+                    !Modifier.isPrivate(m.getModifiers()) || !open.contains(m.getName()));
+        }
+    }
+
+    private static void source(String text) {
+        String code = text.replaceAll("(?s)/\\*.*?\\*/", " ").replaceAll("//[^\n]*", " ")
+                .replaceAll("\"[^\"\n]*\"", "\"\"");
+        for (String word : new String[] {"throw", "throws", "try", "catch", "finally", "synchronized", "assert",
+                "import", "package", "protected", "Object", "Random", "Thread", "float", "double", "equals", "hashCode",
+                "toString"}) {
+            CHECK.holds("no " + word + " in the source", !code.matches("(?s).*\\b" + word + "\\b.*"));
+        }
+        CHECK.holds("no lambda or method reference", !code.contains("->") && !code.contains("::"));
+        CHECK.holds("only signs 1 to 127", text.chars().allMatch(c -> c >= 1 && c <= 127));
+    }
+}
