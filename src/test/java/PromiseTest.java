@@ -36,6 +36,8 @@ public final class PromiseTest {
         loadAndJudge();
         images();
         counts();
+        rims();
+        tenWindows();
         CHECK.end();
     }
 
@@ -516,6 +518,9 @@ public final class PromiseTest {
         due(0, "opens", 11);
         due(1, "opens", 12);
         due(0, "opens", 14);
+        x.build(0, 24, 0, 9);
+        due(0, "opens", 24);
+        x.clear(24);
         x.window(10, 9, 1, 0);
         x.window(10, 3, 1, 0);
         due(5, "opens", 12);
@@ -617,10 +622,18 @@ public final class PromiseTest {
         due(111, "trade", 1, 0);
         due(NONE, "trade", 0, 2);
         due(24, "count", 3);
-        // Ones without height stay as they are.
         x.change(11, 2, 0);
         due(NONE, "trade", 0, 1);
         due(21, "count", 3);
+        // Both must gain: what owner 1 has stands where no window looks.
+        fresh(33);
+        x.build(0, 11, 0, 3);
+        x.build(5, 12, 0, 9);
+        x.build(0, 24, 1, 3);
+        x.window(10, 0, 1, 2);
+        due(NONE, "trade", 0, 1);
+        due(NONE, "trade", 1, 0);
+        flatTrade();
 
         fresh(34);
         beyond("swap", ints(11, 12), 0, 24, 0, 24);
@@ -644,6 +657,23 @@ public final class PromiseTest {
         due(0, "swap", 11, 12);
         x.change(12, 1, 3);
         due(0, "swap", 11, 12);
+    }
+
+    /** One without height stays as it is, but may be of the trade: lot 2 here; with a storey lower on 11 both gain. */
+    private static void flatTrade() {
+        fresh(33);
+        x.build(0, 11, 0, 3);
+        x.build(5, 16, 0, 9);
+        x.change(16, 3, 3);
+        x.build(0, 12, 1, 9);
+        x.window(10, 0, 1, 2);
+        x.window(1, 0, 2, 2);
+        due(1112, "trade", 0, 1);
+        x.build(0, 2, 1, 0);
+        due(1102, "trade", 0, 1);
+        due(211, "trade", 1, 0);
+        due(0, "of", 2, 2);
+        due(21, "count", 3);
     }
 
     private static void spillAndSeed() {
@@ -757,6 +787,12 @@ public final class PromiseTest {
         text(-1, ";");
         text(-1, "3");
         text(-1, "boxat 3 of 0 high 0");
+        text(-1, "boxz at 3 of 0 high 0");
+        text(-1, "abox at 3 of 0 high 0");
+        text(-4, "box`at 3");
+        text(-4, "box{at 3");
+        text(-4, "box/3");
+        text(-4, "box:3");
         text(-3, "  Box");
         text(-4, "box#at");
         text(-4, "box");
@@ -1067,5 +1103,66 @@ public final class PromiseTest {
         x.clear(1);
         x.undo();
         due(13, "status", -1);
+    }
+
+    /** Lot 0, and the lots at the rim, are seen as others are. */
+    private static void rims() {
+        fresh(12);
+        x.build(0, 0, 1, 3);
+        x.build(0, 20, 2, 2);
+        x.window(5, 0, 0, 0);
+        x.window(4, 0, 3, 0);
+        x.window(20, 0, 2, 0);
+        x.window(0, 0, 2, 0);
+        due(7, "sees", 0, 1);
+        due(7, "sees", 1, 4);
+        due(0, "sees", 2, 1);
+        due(3, "sees", 3, 4);
+        due(3, "share", 0, 1);
+        due(1, "lots", 1);
+        due(3, "watched", 0);
+        due(8, "watched", 20);
+        due(3, "rent", 0);
+        due(-8, "gain", 0);
+        promise = 35;
+        x.clear(20);
+        x.change(0, 3, 1);
+        x.seed(1);
+        // One thing alone: the last of the 24 draws tells its paint.
+        int z = 1;
+        for (int i = 0; i < 24; i++) {
+            z = z * 1103515245 + 12345;
+        }
+        int paint = (z >>> 8) % 4;
+        due(2 * 3 * (paint + 1), "spill", 12);
+        due(paint, "of", 0, 3);
+        due(z, "count", 6);
+        promise = 23;
+        x.contract(0, 0, 1);
+        due(0, "breach", 0);
+        due(NONE, "blame", 0);
+    }
+
+    /** With as many windows as can be, each of them counts. */
+    private static void tenWindows() {
+        fresh(16);
+        x.build(3, 11, 1, 2);
+        for (int i = 0; i < 10; i++) {
+            x.window(10, i, 1, i % 2);
+            x.contract(i, 1, i < 5 ? 0 : 3);
+        }
+        due(1023, "watched", 11);
+        due(10, "gain", 1);
+        due(0b1111100000, "broken");
+        due(10, "count", 4);
+        due(20, "ahead", 0, 2);
+        due(20, "ahead", 2, 0);
+        due(0, "ahead", 2, 1);
+        due(9, "allowed", 11);
+        due(0, "opens", 11);
+        due(0, "site", 0, 1, 0);
+        due(0, "worst", 1);
+        due(10, "months", 1);
+        due(FULL, "window", 0, 0, 0, 0);
     }
 }
