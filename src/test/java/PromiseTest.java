@@ -706,12 +706,15 @@ public final class PromiseTest {
         due(3, "of", 11, 3);
     }
 
-    private static int feed(String text) {
-        int had = 0;
-        for (int i = 0; i < text.length(); i++) {
-            had = x.feed(text.charAt(i), 1);
+    private static void feed(String text) {
+        for (int i = 0; i < text.length(); i += 4) {
+            int n = Math.min(4, text.length() - i);
+            int bytes = 0;
+            for (int j = 0; j < n; j++) {
+                bytes = bytes << 8 | text.charAt(i + j);
+            }
+            x.feed(bytes, n);
         }
-        return had;
     }
 
     private static void text(int want, String text) {
