@@ -618,7 +618,7 @@ public final class WindowViews {
         if (!within(i, sheets.lengths[s])) {
             return finding(BEYOND);
         }
-        sheets.put(s, i, v);
+        sheets.store(s, i, v);
         return 1;
     }
 
@@ -1435,7 +1435,7 @@ public final class WindowViews {
         }
 
         /** Numbers have their sign, as Java's own of 8, 16 and 32 bits. */
-        private void put(int s, int i, int v) {
+        private void store(int s, int i, int v) {
             switch (bits[s]) {
                 case 8:
                     numbers[s][i] = (byte) v;

@@ -929,6 +929,11 @@ public final class EdgeTest {
         b.due(11, "trade", 0, 1);
         b.due(1100, "trade", 1, 0);
         b.due(0, "of", 0, 2);
+        // It gets no higher by that: in view and 0 high it gains its owner nothing.
+        b.make("clear", 12);
+        b.make("window", 1, 0, 3, 2);
+        b.due(NONE, "trade", 0, 1);
+        b.due(NONE, "trade", 1, 0);
         b.says(33, "BEYOND: also one and the same.");
         rows(0, 20, 1);
         for (int owner = 0; owner < 4; owner++) {

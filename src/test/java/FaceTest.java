@@ -6,7 +6,11 @@ import java.nio.file.Files;
 import java.nio.file.Path;
 import java.util.ArrayList;
 import java.util.List;
+import java.util.Map;
+import java.util.TreeMap;
 import java.util.TreeSet;
+import java.util.regex.Matcher;
+import java.util.regex.Pattern;
 
 /** The public face is the document's and no more, and the source keeps to the words that LANGUAGE.md leaves. */
 public final class FaceTest {
@@ -27,8 +31,45 @@ public final class FaceTest {
                 Modifier.isPublic(face.getModifiers()) && Modifier.isFinal(face.getModifiers()));
         members(face);
         names(face);
-        source(Files.readString(Path.of("src/main/java/WindowViews.java")));
+        String text = Files.readString(Path.of("src/main/java/WindowViews.java"));
+        source(text);
+        methods(text);
         CHECK.end();
+    }
+
+    private static String code(String text) {
+        return text.replaceAll("(?s)/\\*.*?\\*/", " ").replaceAll("//[^\n]*", " ").replaceAll("\"[^\"\n]*\"", "\"\"");
+    }
+
+    /** Methods stay short, none calls itself, and calls go at most eight deep (one more is left for the library's own). */
+    private static void methods(String text) {
+        Map<String, String> bodies = new TreeMap<>();
+        Matcher m = Pattern.compile("(?m)^( +)(?:public|private)[\\w\\[\\] ]* (\\w+)\\([^)]*\\) \\{\\n").matcher(code(text));
+        while (m.find()) {
+            int end = code(text).indexOf("\n" + m.group(1) + "}\n", m.end() - 1);
+            String body = code(text).substring(m.end() - 1, end + 1);
+            CHECK.holds(m.group(2) + " has a name of its own in the file", bodies.put(m.group(2), body) == null);
+            CHECK.holds(m.group(2) + " is short", body.lines().count() <= 60);
+        }
+        for (String row : FACE) {
+            String name = row.substring(0, row.indexOf(' '));
+            CHECK.holds("the source of " + name + " is found", bodies.containsKey(name));
+        }
+        for (String name : bodies.keySet()) {
+            int deep = depth(name, bodies, 0);
+            CHECK.holds(name + " goes at most seven deep in the file, not " + deep, deep <= 7);
+        }
+    }
+
+    private static int depth(String name, Map<String, String> bodies, int above) {
+        int deepest = 0;
+        Matcher m = Pattern.compile("(?<!Math\\.|Integer\\.|System\\.)\\b(\\w+)\\(").matcher(bodies.get(name));
+        while (m.find() && above < 20) {
+            if (bodies.containsKey(m.group(1))) {
+                deepest = Math.max(deepest, depth(m.group(1), bodies, above + 1));
+            }
+        }
+        return 1 + deepest;
     }
 
     private static void members(Class<?> face) {
@@ -75,8 +116,7 @@ public final class FaceTest {
     }
 
     private static void source(String text) {
-        String code = text.replaceAll("(?s)/\\*.*?\\*/", " ").replaceAll("//[^\n]*", " ")
-                .replaceAll("\"[^\"\n]*\"", "\"\"");
+        String code = code(text);
         for (String word : new String[] {"throw", "throws", "try", "catch", "finally", "synchronized", "assert",
                 "import", "package", "protected", "Object", "Random", "Thread", "float", "double", "equals", "hashCode",
                 "toString"}) {

@@ -416,7 +416,13 @@ public final class KeepTest {
         b.make("sheet", 0, 16, 4);
         b.make("write", 0, 0, 511 + 65536);
         b.due(0, "judge", 0, 1);
-        // Seven squares are the most that are right in 8 bits.
+        // Numbers have their sign, as Java's own: eight squares are 255, which 8 bits hold as -1.
+        b.make("change", 15, 2, 8);
+        for (int bits : Bench.ints(8, 16, 32)) {
+            b.make("sheet", 0, bits, 4);
+            b.make("write", 0, 0, 255);
+            b.due(bits == 8 ? 1 : 0, "judge", 0, 1);
+        }
         b.make("sheet", 0, 8, 4);
         b.make("change", 15, 2, 7);
         b.make("write", 0, 0, 127);

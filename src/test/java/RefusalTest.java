@@ -364,7 +364,7 @@ public final class RefusalTest {
     /** Each finding that a promise names was told by its call here, and no other. */
     private void allNamed() {
         Document document = new Document();
-        for (int promise = 2; promise <= Document.PROMISES; promise++) {
+        for (int promise = 2; promise <= Document.PROMISES && Document.isThere(); promise++) {
             String name = document.title(promise);
             Set<String> told = refused.getOrDefault(name, Set.of());
             check.holds("promise " + promise + ", " + name + ": the document names " + document.findings(promise)
