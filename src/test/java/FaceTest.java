@@ -101,7 +101,9 @@ public final class FaceTest {
         }
         List<Class<?>> all = new ArrayList<>(List.of(face.getDeclaredClasses()));
         CHECK.holds("at most twelve classes", all.size() < 12);
+        fields(face);
         for (Class<?> inside : all) {
+            fields(inside);
             CHECK.holds(inside + " is static and not public",
                     Modifier.isStatic(inside.getModifiers()) && !Modifier.isPublic(inside.getModifiers()));
             for (Method m : inside.getDeclaredMethods()) {
@@ -115,6 +117,35 @@ public final class FaceTest {
         }
     }
 
+    /** A static field is a constant int here; the others are at most some twenty. */
+    private static void fields(Class<?> one) {
+        int own = 0;
+        for (Field f : one.getDeclaredFields()) {
+            boolean still = Modifier.isStatic(f.getModifiers());
+            CHECK.holds(f + " is a constant", !still || Modifier.isFinal(f.getModifiers()) && f.getType() == int.class);
+            own += still ? 0 : 1;
+        }
+        CHECK.holds(one + " has at most twenty fields, not " + own, own <= 20);
+    }
+
+    /** Every name with a great letter is a constant, a class of the file, or of the library that is left. */
+    private static void library(String code) {
+        TreeSet<String> left = new TreeSet<>(List.of("String", "Math", "Integer", "System", "WindowViews"));
+        for (Class<?> inside : WindowViews.class.getDeclaredClasses()) {
+            left.add(inside.getSimpleName());
+        }
+        Matcher m = Pattern.compile("\\b[A-Z]\\w*[a-z]\\w*").matcher(code);
+        while (m.find()) {
+            CHECK.holds(m.group() + " is left by LANGUAGE.md", left.contains(m.group()));
+        }
+        TreeSet<String> calls = new TreeSet<>(List.of("Math.min", "Math.max", "Math.floorDiv", "Integer.bitCount",
+                "Integer.compare", "System.arraycopy"));
+        m = Pattern.compile("\\b(?:Math|Integer|System)\\.\\w+").matcher(code);
+        while (m.find()) {
+            CHECK.holds(m.group() + " is among the calls that were held against LANGUAGE.md", calls.contains(m.group()));
+        }
+    }
+
     private static void source(String text) {
         String code = code(text);
         for (String word : new String[] {"throw", "throws", "try", "catch", "finally", "synchronized", "assert",
@@ -122,6 +153,7 @@ public final class FaceTest {
                 "toString"}) {
             CHECK.holds("no " + word + " in the source", !code.matches("(?s).*\\b" + word + "\\b.*"));
         }
+        library(code);
         CHECK.holds("no lambda or method reference", !code.contains("->") && !code.contains("::"));
         CHECK.holds("only signs 1 to 127", text.chars().allMatch(c -> c >= 1 && c <= 127));
     }
